@@ -7,6 +7,9 @@ import java.util.Arrays;
 public final class OneBitLoop {
     public static final int NONE = -1, BAD = -2, STATE = -3, FULL = -4, SPENT = -5, GREAT = -6, NOT = -7;
 
+    private static final long LEAST_LONG = 0x8000000000000000L;
+    private static final int LEAST_INT = 0x80000000;
+
     private static final int FINDINGS = -10;
     private static final int LOST_REEL = 1, NO_ITEM = 2, OTHER_FORM = 3, UNLIKE_FORMS = 4, BELOW_ZERO = 5;
 
@@ -251,18 +254,18 @@ public final class OneBitLoop {
 
     public long stageAt(int s, int what) {
         if (!shape.hasStage(s) || what < 0 || what > WHAT_KIND) {
-            return Long.MIN_VALUE;
+            return LEAST_LONG;
         }
         return what == WHAT_KIND ? shape.kinds[s] : now.numbers[s * NUMBERS + what];
     }
 
     public long levelAt(int k) {
-        return shape.hasLevel(k) ? shape.levels[k] : Long.MIN_VALUE;
+        return shape.hasLevel(k) ? shape.levels[k] : LEAST_LONG;
     }
 
     public long record(int t, int what) {
         if (!isRecorded(t, what)) {
-            return Long.MIN_VALUE;
+            return LEAST_LONG;
         }
         return log.numbers[t * STEP_WIDTH + what];
     }
@@ -298,7 +301,7 @@ public final class OneBitLoop {
 
     public int weight(int j, int w) {
         if (j < 0 || j >= WEIGHTS) {
-            return Integer.MIN_VALUE;
+            return LEAST_INT;
         }
         int was = weights[j];
         weights[j] = w;
@@ -335,7 +338,7 @@ public final class OneBitLoop {
             case 2:
                 return holding.sum;
             default:
-                return Long.MIN_VALUE;
+                return LEAST_LONG;
         }
     }
 
@@ -367,7 +370,7 @@ public final class OneBitLoop {
             refusal = GREAT;
         }
         worstRow.refusal = refusal;
-        return refusal == 0 ? worstRow.size : Long.MIN_VALUE;
+        return refusal == 0 ? worstRow.size : LEAST_LONG;
     }
 
     public long worstAt(int i) {
@@ -531,7 +534,7 @@ public final class OneBitLoop {
         if (form == FLOATS) {
             return (bits & 0x7FFFFFFFL) > 0x7F800000L;
         }
-        return (bits & Long.MAX_VALUE) > 0x7FF0000000000000L;
+        return (bits & 0x7FFFFFFFFFFFFFFFL) > 0x7FF0000000000000L;
     }
 
     /** The item as a long, cut to a SAMPLE; it is a number. */
