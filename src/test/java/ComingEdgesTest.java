@@ -171,6 +171,17 @@ public final class ComingEdgesTest extends Edges {
             x.stage(0, 0, 0);
             due("hold", x.hold(9, 400), SPENT);
         });
+        for (int k = 0; k < 5; k++) {
+            int which = k;
+            edge("KEPT of STAGE " + k + " of five alone does not", () -> {
+                due("hold", fiveButOne(which, 0, 0).hold(END, 400), SPENT);
+                due("it does, too", fiveButOne(which, 2, 0).hold(END, 400) >= 0);
+            });
+            edge("BESIDE of STAGE " + k + " of five alone does not", () -> {
+                due("hold", fiveButOne(which, 3, 256).hold(END, 400), SPENT);
+                due("it does, too", fiveButOne(which, 3, 0).hold(END, 400) >= 0);
+            });
+        }
         edge("the ledgers do not count", () -> {
             OneBitLoop x = with(2, 5, 0);
             steps(x, 9);
@@ -249,6 +260,24 @@ public final class ComingEdgesTest extends Edges {
             due("hold", x.hold(-5, 1), 0);
             heldIs(x, 0, 1, -1);
         });
+    }
+
+    /**
+     * Five STAGES that soon stay at their bounds, but for one: a PLAIN one goes on to rise, and so does
+     * what a TURNING one has BESIDE, for those ahead keep 1000 and give it that.
+     */
+    private static OneBitLoop fiveButOne(int which, int kind, int turn) {
+        OneBitLoop x = new OneBitLoop();
+        x.levels(2, -1, 1);
+        for (int s = 0; s < 5; s++) {
+            if (s == which) {
+                x.stage(kind, kind == 0 ? 0 : 1, turn);
+            } else {
+                x.stage(2, s < which ? 1000 : 1, 0);
+            }
+        }
+        due("stages", x.count(0), 5);
+        return x;
     }
 
     private static int gcd(int a, int b) {
@@ -634,6 +663,17 @@ public final class ComingEdgesTest extends Edges {
                 due("the first", y.reach(0, 0, 9), NOT);
             });
         }
+        edge("one that was cleared is none", () -> {
+            OneBitLoop x = new OneBitLoop();
+            for (int s = 0; s < 5; s++) {
+                x.stage(3, 1, 0);
+            }
+            x.clear();
+            due("stage", x.stage(2, 1, 0), 0);
+            due("one", x.reach(9, 9, 9), 2);
+            due("stage", x.stage(2, 1, 0), 1);
+            due("two", x.reach(9, 9, 9) > 0);
+        });
         says("or SPAN is not 0;");
         edge("1 and 0", () -> {
             OneBitLoop x = with(2, 1, 0);

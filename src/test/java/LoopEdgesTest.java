@@ -72,6 +72,14 @@ public final class LoopEdgesTest extends Edges {
         });
         says("and a SEED (a long, 0 at first).");
         edge("of a new object", () -> digestIs(new OneBitLoop(), 0));
+        edge("of one that goes back to its beginning", () -> {
+            OneBitLoop x = new OneBitLoop();
+            steps(x, 1);
+            x.undo(1);
+            digestIs(x, 0);
+            x.clear();
+            digestIs(x, 0);
+        });
         edge("the ends of a long", () -> {
             for (long seed : new long[] {LEAST, MOST, -1}) {
                 OneBitLoop x = new OneBitLoop();
