@@ -1,10 +1,15 @@
+import java.lang.reflect.Constructor;
+import java.lang.reflect.Field;
+import java.lang.reflect.Method;
+import java.lang.reflect.Modifier;
 import java.nio.file.Files;
 import java.nio.file.Path;
+import java.util.ArrayList;
 import java.util.List;
 import java.util.regex.Matcher;
 import java.util.regex.Pattern;
 
-/** Those rules of LANGUAGE.md that can be seen in the text of the program. */
+/** Those rules of LANGUAGE.md that can be seen in the text of the program, or in its classes. */
 public final class RulesTest {
     private static final Path SOURCE = Path.of("src/main/java/OneBitLoop.java");
     /** No call throws, so nothing is caught; floats are read by their bits. */
@@ -43,6 +48,7 @@ public final class RulesTest {
             fault("the program has " + classes + " classes");
         }
         methodsAreShort(all.split("\n"));
+        classesAreAsTold();
         System.out.println(wrong == 0 ? "the rules are kept" : wrong + " faults against the rules");
         if (wrong != 0) {
             System.exit(1);
@@ -62,6 +68,51 @@ public final class RulesTest {
                 }
                 begun = -1;
             }
+        }
+    }
+
+    /** Rules 1, 2, 5 and 11. */
+    private static void classesAreAsTold() {
+        List<String> face = new ArrayList<>();
+        for (Method m : OneBitLoop.class.getDeclaredMethods()) {
+            if (Modifier.isPublic(m.getModifiers())) {
+                face.add(m.getName());
+            }
+        }
+        classIsAsTold(OneBitLoop.class, face);
+        for (Class<?> inside : OneBitLoop.class.getDeclaredClasses()) {
+            int seen = inside.getModifiers();
+            if (!Modifier.isStatic(seen) || Modifier.isPublic(seen) || Modifier.isProtected(seen)) {
+                fault(inside.getName() + " is not static, or is seen from outside");
+            }
+            classIsAsTold(inside, face);
+        }
+    }
+
+    private static void classIsAsTold(Class<?> one, List<String> face) {
+        for (Method m : one.getDeclaredMethods()) {
+            if (!Modifier.isPublic(m.getModifiers()) && face.contains(m.getName())) {
+                fault(m + " bears the name of a public one");
+            }
+            if (m.getParameterCount() > 7) {
+                fault(m + " takes more than seven");
+            }
+        }
+        for (Constructor<?> c : one.getDeclaredConstructors()) {
+            if (c.getParameterCount() > 7) {
+                fault(c + " takes more than seven");
+            }
+        }
+        int fields = 0;
+        for (Field f : one.getDeclaredFields()) {
+            if (!Modifier.isStatic(f.getModifiers())) {
+                fields++;
+            } else if (!Modifier.isFinal(f.getModifiers()) || !f.getType().isPrimitive()) {
+                fault(f + " is no constant");
+            }
+        }
+        if (fields > 20) {
+            fault(one.getName() + " has " + fields + " fields");
         }
     }
 }

@@ -20,6 +20,7 @@ abstract class Edges {
     }
 
     private static final Path DOCUMENT = Path.of("../shared/DOC.md");
+    static final String END_OF_DOCUMENT = "(here it ends)";
     private static String document = null;
     private static String stretchName = "";
     /** what of the stretch no quotation has had yet */
@@ -42,7 +43,7 @@ abstract class Edges {
         }
     }
 
-    /** The stretch of the document from some words up to others. */
+    /** The stretch of the document from some words up to others (or up to its END_OF_DOCUMENT). */
     static void open(String from, String to) {
         close();
         stretchName = from;
@@ -67,12 +68,19 @@ abstract class Edges {
         left.replace(at, at + words.length(), "|");
     }
 
+    /** The document in one line, with END_OF_DOCUMENT behind it. */
+    static String document() {
+        readDocument();
+        return document;
+    }
+
     private static void readDocument() {
         if (document != null) {
             return;
         }
         try {
-            document = Files.readString(DOCUMENT).replaceAll("(?m)^```.*$", "").replaceAll("\\s+", " ");
+            document = Files.readString(DOCUMENT).replaceAll("(?m)^```.*$", "").replaceAll("\\s+", " ")
+                + END_OF_DOCUMENT;
         } catch (java.io.IOException e) {
             throw new IllegalStateException("no document at " + DOCUMENT);
         }
